@@ -5,6 +5,7 @@ final class SingleTest {
 
     public static void main(String[] args) {
         nothing();
+        nothingElse();
         decimal();
         decimalSums();
         flags();
@@ -61,6 +62,19 @@ final class SingleTest {
 
     private static int packed(int number) {
         return number / 10 * 16 + number % 10;
+    }
+
+    /** Nothing but what is told changes, and PC goes on by one byte, whatever follows. */
+    private static void nothingElse() {
+        String full = "X=3333 Y=4444 U=5555 S=6666 DP=77 [101]=FFFF ";
+        Scene.done("19", full + "A=9A B=22 CC=02", "A=00 CC=07");
+        Scene.done("1D", full + "A=9A B=22 CC=02", "A=00 CC=00");
+        Scene.done("3A", full + "A=9A B=22 CC=02", "X=3355");
+        Scene.done("3D", full + "A=02 B=41 CC=0E", "A=00 B=82 CC=0B");
+        Scene.done("13", full + "A=9A B=22 CC=02", "waits=1");
+        Scene.done("39", full + "A=9A B=22 CC=02 S=0300 [300]=1234", "PC=1234 S=0302");
+        Scene.done("4C", full + "A=9A B=22 CC=02", "A=9B CC=08");
+        Scene.done("5F", full + "A=9A B=22 CC=02", "B=00 CC=04");
     }
 
     private static void flags() {
