@@ -65,7 +65,7 @@ final class BranchTest {
         State start = new State().with(before).withBytes(0x100, code);
         TwinStackChip chip = start.build();
         Check.due(code + " with " + before, chip.step(), 0);
-        start.with("PC=" + Integer.toHexString(pc)).compareRegisters(code + " with " + before, chip);
+        start.with("PC=" + Hex.four(pc)).compareRegisters(code + " with " + before, chip);
     }
 
     private static void edges() {

@@ -4,6 +4,9 @@ final class Check {
 
     private static int right;
     private static int wrong;
+    private static String sentence = "";
+    private static int sentences;
+    private static int countBefore;
 
     private Check() {
     }
@@ -15,7 +18,8 @@ final class Check {
         }
         wrong++;
         if (wrong <= MOST_TOLD) {
-            System.out.println(what + ": answered " + hex(got) + ", due is " + hex(want));
+            String told = sentence.isEmpty() ? "" : "\"" + sentence + "\": ";
+            System.out.println(told + what + ": answered " + hex(got) + ", due is " + hex(want));
         }
     }
 
@@ -23,9 +27,26 @@ final class Check {
         due(what, got ? 1 : 0, want ? 1 : 0);
     }
 
+    /** The document's words that the answers from here on are due by: at least one answer. */
+    static void sentence(String words) {
+        endSentence();
+        sentence = words;
+        sentences++;
+    }
+
+    private static void endSentence() {
+        if (!sentence.isEmpty() && right + wrong == countBefore) {
+            wrong++;
+            System.out.println("\"" + sentence + "\": no answer was looked at");
+        }
+        countBefore = right + wrong;
+    }
+
     /** The last call of each main method. */
     static void finish() {
-        System.out.println(right + " answers as due, " + wrong + " not");
+        endSentence();
+        String of = sentences == 0 ? "" : sentences + " sentences: ";
+        System.out.println(of + right + " answers as due, " + wrong + " not");
         if (wrong != 0 || right == 0) {
             System.exit(1);
         }

@@ -1,7 +1,7 @@
 import java.util.HashSet;
 import java.util.Set;
 
-/** Which codes, postbytes and pairs of registers are defined, and that the others change nothing. */
+/** Which codes, postbytes and pairs of registers are defined; the others change nothing. */
 final class DefinedTest {
     private static final String PLAIN =
         "00 03 04 06-0A 0C-0F 12 13 16 17 19 1A 1C-1F 20-2F 30-37 39-3D 3F"
@@ -38,10 +38,6 @@ final class DefinedTest {
         return all;
     }
 
-    private static String two(int v) {
-        return String.format("%02X", v);
-    }
-
     private static void judge(String code, boolean defined) {
         State before = new State().with(FULL).withBytes(0x100, code);
         TwinStackChip chip = before.build();
@@ -57,9 +53,9 @@ final class DefinedTest {
             boolean another = prefix.isEmpty() && (code == 0x10 || code == 0x11);
             if (!another) {
                 // 00 is a postbyte and a pair that is defined; 80, ,X+, must not grow X.
-                judge(prefix + two(code) + "000000", set.contains(code));
+                judge(prefix + Hex.two(code) + "000000", set.contains(code));
                 if (!set.contains(code)) {
-                    judge(prefix + two(code) + "800000", false);
+                    judge(prefix + Hex.two(code) + "800000", false);
                 }
             }
         }
@@ -69,10 +65,10 @@ final class DefinedTest {
         for (int postbyte = 0; postbyte < 256; postbyte++) {
             boolean defined = isDefined(postbyte);
             for (int code : parse(INDEXED)) {
-                judgeQuickly(two(code) + two(postbyte) + "0000", defined);
+                judgeQuickly(Hex.two(code) + Hex.two(postbyte) + "0000", defined);
             }
             for (String code : "10A3 10AC 10AE 10AF 10EE 10EF 11A3 11AC".split(" ")) {
-                judgeQuickly(code + two(postbyte) + "0000", defined);
+                judgeQuickly(code + Hex.two(postbyte) + "0000", defined);
             }
         }
         for (String code : "A690 A692 A687 A68A A68E A68F A6BF A6DF A6FF 6E97 ED9A 10EE9E 3292"
@@ -105,12 +101,12 @@ final class DefinedTest {
         String words = "012345";
         String bytes = "89AB";
         for (int pair = 0; pair < 256; pair++) {
-            String first = two(pair).substring(0, 1);
-            String second = two(pair).substring(1);
+            String first = Hex.two(pair).substring(0, 1);
+            String second = Hex.two(pair).substring(1);
             boolean defined = words.contains(first) && words.contains(second)
                 || bytes.contains(first) && bytes.contains(second);
-            judge("1E" + two(pair), defined);
-            judge("1F" + two(pair), defined);
+            judge("1E" + Hex.two(pair), defined);
+            judge("1F" + Hex.two(pair), defined);
         }
     }
 

@@ -144,7 +144,8 @@ final class OperateTest {
         String[] ends = {"", "20", "A0", "0320"};
         int mode = code >> 4 & 3;
         String name = code < 0xC0 ? "A" : "B";
-        String before = String.format("%s=%02X CC=%02X [320]=%02X DP=03 Y=0320", name, have, cc, with);
+        String before =
+            String.format("%s=%02X CC=%02X [320]=%02X DP=03 Y=0320", name, have, cc, with);
         String after = String.format("%s=%02X CC=%02X", name, outcome, flags);
         Scene.done(String.format("%02X%s", code, ends[mode]), before,
             mode == 2 ? after + " Y=0321" : after);

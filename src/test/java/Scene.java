@@ -23,6 +23,30 @@ final class Scene {
         answers(2, code, before, "");
     }
 
+    /**
+     * Steps told in rows: the code, the words before, the words after, and what the step answers
+     * (then PC stays unless the words say otherwise); or "undefined" for the words after.
+     */
+    static void table(String usual, String rows) {
+        for (String row : rows.strip().split("\n")) {
+            String[] cells = row.split("\\|");
+            String code = cells[0].strip();
+            String before = usual + " " + cells[1].strip();
+            String after = cells[2].strip();
+            if (after.equals("undefined")) {
+                undefined(code, before);
+            } else if (cells.length > 3) {
+                answers(Integer.parseInt(cells[3].strip()), code, before, after);
+            } else {
+                done(code, before, after);
+            }
+        }
+    }
+
+    static void table(String rows) {
+        table("", rows);
+    }
+
     private static State start(String code, String before) {
         State start = new State().with(USUAL).with(before);
         return start.withBytes(start.registers[State.PC], code);

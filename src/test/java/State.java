@@ -1,5 +1,6 @@
 import java.util.Arrays;
 import java.util.List;
+import java.util.function.Supplier;
 
 /**
  * All that can be seen of a chip, told in words: "A=12", "D=1234" (A and B), "CC=05",
@@ -155,11 +156,15 @@ final class State {
         Check.due(what + ", lines()", chip.lines(), lineBits());
     }
 
-    /** Compares memory too, with a new chip for each block: an object is good for 512 calls. */
     void compareAll(String what, State before, int steps) {
-        compareRegisters(what, before.play(steps));
+        compareAll(what, () -> before.play(steps));
+    }
+
+    /** Compares memory too, with a new chip for each block: an object is good for 512 calls. */
+    void compareAll(String what, Supplier<TwinStackChip> maker) {
+        compareRegisters(what, maker.get());
         for (int block = 0; block < SIZE; block += BLOCK) {
-            TwinStackChip chip = before.play(steps);
+            TwinStackChip chip = maker.get();
             for (int i = block; i < block + BLOCK; i++) {
                 if (chip.peek(i) != memory[i]) {
                     Check.due(what + ", byte " + Integer.toHexString(i), chip.peek(i), memory[i]);
