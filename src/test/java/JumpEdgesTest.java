@@ -13,6 +13,7 @@ final class JumpEdgesTest {
         conditions();
         longBranches();
         longJumps();
+        jumps();
         calls();
         Check.finish();
     }
@@ -72,6 +73,24 @@ final class JumpEdgesTest {
             16 00 00 | PC=FFFD | PC=0000
             16 FF FC | PC=0000 | PC=FFFF
             """);
+    }
+
+    private static void jumps() {
+        Check.sentence("E: JMP: PC is the address; no flags.");
+        for (String flags : "CC=00 CC=FF".split(" ")) {
+            Scene.table(flags, """
+                0E 00    | DP=00       | PC=0000
+                0E FF    | DP=FF       | PC=FFFF
+                6E 84    | X=0000      | PC=0000
+                6E 84    | X=FFFF      | PC=FFFF
+                6E 1F    | X=0000      | PC=FFFF
+                6E 80    | X=FFFF      | PC=FFFF X=0000
+                6E 8C FD |             | PC=0100
+                6E 9F 0F FF | [FFF]=FF [000]=FE | PC=FFFE
+                7E 10 00 |             | PC=1000
+                7E FF FF |             | PC=FFFF
+                """);
+        }
     }
 
     private static void calls() {

@@ -29,7 +29,7 @@ final class Scene {
      */
     static void table(String usual, String rows) {
         for (String row : rows.strip().split("\n")) {
-            String[] cells = row.split("\\|");
+            String[] cells = row.split("\\|", -1);
             String code = cells[0].strip();
             String before = usual + " " + cells[1].strip();
             String after = cells[2].strip();

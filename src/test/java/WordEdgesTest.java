@@ -19,6 +19,7 @@ final class WordEdgesTest {
         decimal();
         flagsByByte();
         extend();
+        changePlaces();
         loadAddress();
         addB();
         multiply();
@@ -165,6 +166,34 @@ final class WordEdgesTest {
             1D | D=0080 CC=06 | D=FF80 CC=08
             1D | D=12FF CC=F7 | D=FFFF CC=F9
             1D | D=8001 CC=FE | D=0001 CC=F0
+            """);
+    }
+
+    private static void changePlaces() {
+        Check.sentence("1E: they change places; 1F: the second one becomes the first.");
+        Scene.table("A=12 B=34 X=FFFF Y=0000 DP=77 CC=FF", """
+            1E 12 |  | X=0000 Y=FFFF
+            1E 11 |  |
+            1E 00 |  |
+            1E 01 |  | D=FFFF X=1234
+            1E 33 |  |
+            1E 15 |  | X=0102 PC=FFFF
+            1E 51 |  | X=0102 PC=FFFF
+            1E 55 |  |
+            1E 89 |  | A=34 B=12
+            1E 8A |  | A=FF CC=12
+            1E AB |  | CC=77 DP=FF
+            1E AA |  |
+            1F 12 |  | Y=FFFF
+            1F 21 |  | X=0000
+            1F 10 |  | D=FFFF
+            1F 15 |  | PC=FFFF
+            1F 51 |  | X=0102
+            1F 55 |  |
+            1F 8A |  | CC=12
+            1F A8 |  | A=FF
+            1F 9B |  | DP=34
+            1F BB |  |
             """);
     }
 
