@@ -11,6 +11,7 @@ final class JumpEdgesTest {
     public static void main(String[] args) {
         offsets();
         conditions();
+        noPostbytes();
         longBranches();
         longJumps();
         jumps();
@@ -45,6 +46,22 @@ final class JumpEdgesTest {
                 Scene.done("10" + cells[0] + "8000", "CC=" + flags, "PC=0104");
             }
         }
+    }
+
+    private static void noPostbytes() {
+        Check.sentence("n: a byte that follows (what is undefined as a postbyte is none here)");
+        Scene.table("""
+            20 87 |             | PC=0089
+            2F 87 | CC=00       | PC=0102
+            2F 90 | CC=04       | PC=0092
+            34 90 | S=0800 X=1234 | S=07FC [7FC]=12340102
+            86 87 |             | A=87 CC=08
+            C6 97 |             | B=97 CC=08
+            96 8F | DP=03 [38F]=5A | A=5A
+            0C 8A | DP=03       | [38A]=01
+            1A 8E |             | CC=8E
+            B6 87 8F | [78F]=5A | A=5A
+            """);
     }
 
     private static void longBranches() {

@@ -140,6 +140,7 @@ final class WordEdgesTest {
             19 | A=FF CC=21 | A=65 CC=21
             19 | A=FF CC=DE | A=65 CC=D3
             19 | A=9A CC=21 | A=00 CC=25
+            19 | A=9B CC=00 | A=01 CC=01
             19 | A=74 CC=20 | A=7A CC=20
             19 | A=7A CC=00 | A=80 CC=08
             """);
