@@ -154,8 +154,8 @@ final class ByteEdgesTest {
                 String then = row.substring(6, 8);
                 String before = " CC=" + Hex.two(Hex.parse(row.substring(3, 5)) | rest);
                 String after = " CC=" + Hex.two(Hex.parse(row.substring(9)) | rest);
-                Scene.done("4" + column, "A=" + have + before, "A=" + then + after);
-                Scene.done("5" + column, "B=" + have + before, "B=" + then + after);
+                Scene.done("4" + column, "B=77 A=" + have + before, "A=" + then + after);
+                Scene.done("5" + column, "A=77 B=" + have + before, "B=" + then + after);
                 String there = "[FFF]=" + have + before;
                 after += " [FFF]=" + then;
                 Scene.done("0" + column + "FF", there + " DP=0F", after);

@@ -178,6 +178,7 @@ final class WordEdgesTest {
             1E 00 |  |
             1E 01 |  | D=FFFF X=1234
             1E 33 |  |
+            1E 32 |  | U=0000 Y=0900
             1E 15 |  | X=0102 PC=FFFF
             1E 51 |  | X=0102 PC=FFFF
             1E 55 |  |
@@ -188,6 +189,8 @@ final class WordEdgesTest {
             1F 12 |  | Y=FFFF
             1F 21 |  | X=0000
             1F 10 |  | D=FFFF
+            1F 13 |  | U=FFFF
+            1F 31 |  | X=0900
             1F 15 |  | PC=FFFF
             1F 51 |  | X=0102
             1F 55 |  |
